@@ -812,32 +812,18 @@ public final class LateMirror {
             place = NONE;
             draft.empty();
             nextToken();
-            boolean good = true;
-            for (int i = 0; i < length && good && kind != END; i++) {
-                good = readLine();
+            for (int i = 0; i < length && kind != END; i++) {
+                boolean good = isWord("deep") ? readDeep()
+                    : isWord("person") ? readPerson()
+                    : isWord("thing") ? readThing()
+                    : isWord("rule") ? readRule()
+                    : isWord("miss") ? readMiss()
+                    : refuse();
+                if (!good || !passSign(';')) {
+                    return false;
+                }
+                draft.lines++;
             }
-            return good;
-        }
-
-        private boolean readLine() {
-            boolean good;
-            if (isWord("deep")) {
-                good = readDeep();
-            } else if (isWord("person")) {
-                good = readPerson();
-            } else if (isWord("thing")) {
-                good = readThing();
-            } else if (isWord("rule")) {
-                good = readRule();
-            } else if (isWord("miss")) {
-                good = readMiss();
-            } else {
-                good = refuse();
-            }
-            if (!good || !passSign(';')) {
-                return false;
-            }
-            draft.lines++;
             return true;
         }
 
@@ -932,7 +918,7 @@ public final class LateMirror {
             return true;
         }
 
-        // Signs wait until one comes that binds less, so that no call calls itself: the text tells how deep it goes.
+        // Signs wait until one comes that binds less, so that however deep a text goes, the calls do not.
         private boolean readTruth() {
             top = 0;
             within = 0;
@@ -941,13 +927,13 @@ public final class LateMirror {
             startUnit();
             boolean good = true;
             for (int i = 0; i <= length && good; i++) {
-                if (wantsOperand) {
-                    good = readOperand();
-                } else if (isWord("do") && isUnitWhole() && openTruths == 0) {
-                    release(0);
+                if (!wantsOperand && isWord("do") && isUnitWhole() && openTruths == 0) {
+                    release(NONE);
                     return true;
-                } else {
-                    good = readSumSign() || readTruthSign() || refuse();
+                }
+                good = wantsOperand ? readOperand() : readSumSign() || readTruthSign() || refuse();
+                if (good) {
+                    nextToken();
                 }
             }
             return false;
@@ -984,7 +970,6 @@ public final class LateMirror {
             draft.addCode(part);
             atUnitStart = false;
             wantsOperand = false;
-            nextToken();
             return true;
         }
 
@@ -994,7 +979,6 @@ public final class LateMirror {
             }
             within++;
             hold(opening);
-            nextToken();
             return true;
         }
 
@@ -1005,7 +989,6 @@ public final class LateMirror {
             if (value == ')' && openSums > 0) {
                 release(OPEN_SUM);
                 openSums--;
-                nextToken();
                 return true;
             }
             int sign = signOfByte();
@@ -1013,7 +996,7 @@ public final class LateMirror {
             if (sign == NONE || (compares && (compared || openSums > 0))) {
                 return false;
             }
-            compared |= compares;
+            compared = compared || compares;
             join(sign);
             wantsOperand = true;
             return true;
@@ -1027,7 +1010,6 @@ public final class LateMirror {
                 release(OPEN_TRUTH);
                 openTruths--;
                 bracketed = true;
-                nextToken();
                 return true;
             }
             int sign = isWord("and") ? AND : isWord("or") ? OR : NONE;
@@ -1040,11 +1022,10 @@ public final class LateMirror {
         }
 
         private void join(int sign) {
-            while (top > 0 && bindingOf(pending[top - 1]) >= bindingOf(sign)) {
+            for (int i = top - 1; i >= 0 && bindingOf(pending[i]) >= bindingOf(sign); i--) {
                 settleTop();
             }
             hold(sign);
-            nextToken();
         }
 
         private void hold(int sign) {
@@ -1056,7 +1037,7 @@ public final class LateMirror {
 
         // All that waits behind the opening, and the opening itself, which leaves no code; all without one.
         private void release(int opening) {
-            while (top > 0 && pending[top - 1] != opening) {
+            for (int i = top - 1; i >= 0 && pending[i] != opening; i--) {
                 settleTop();
             }
             if (top > 0) {
@@ -1066,11 +1047,11 @@ public final class LateMirror {
         }
 
         private void settleTop() {
-            top--;
-            if (pending[top] == NOT) {
-                within--;
+            if (top > 0) {
+                top--;
+                within -= pending[top] == NOT ? 1 : 0;
+                draft.addCode(pending[top]);
             }
-            draft.addCode(pending[top]);
         }
 
         private static int bindingOf(int sign) {
@@ -1470,7 +1451,7 @@ public final class LateMirror {
         }
 
         private static int kept(long v) {
-            return (int) Math.max(-MOST_VALUE, Math.min(MOST_VALUE, v));
+            return v > MOST_VALUE ? MOST_VALUE : v < -MOST_VALUE ? -MOST_VALUE : (int) v;
         }
 
         void spendHours(int[] row, Trays trays, int tray) {
@@ -1898,7 +1879,7 @@ public final class LateMirror {
             for (int i = 0; i < size; i++) {
                 int doing = doingAt(i, late);
                 if (seen[i] != STAY) {
-                    good &= seen[i] == doing;
+                    good = good && seen[i] == doing;
                     cant |= 1 << doing;
                 } else if (doing != STAY) {
                     must |= 1 << doing;
