@@ -30,6 +30,8 @@ public final class AgainstPlainTest {
         }
         texts(args.length > 1 ? Integer.parseInt(args[1]) : 40000);
         games();
+        manyLaws(1500);
+        manyDebts(3000);
         System.out.println(asked + " answers, " + passes + " steps with passing, " + wrong + " wrong");
         if (passes < runs / 2) {
             System.out.println("too little passed: the runs tell too little");
@@ -394,6 +396,26 @@ public final class AgainstPlainTest {
             if (i % 50 == 0) test.askAll();
         }
         System.out.println(many + " texts, " + good + " without fault");
+    }
+
+    private static void manyLaws(int many) {
+        AgainstPlainTest test = new AgainstPlainTest(3000000);
+        for (int i = 0; i < many; i++) test.laws();
+    }
+
+    private static void manyDebts(int many) {
+        AgainstPlainTest test = new AgainstPlainTest(4000000);
+        test.tell("person 0;person 1;person 2;");
+        for (int i = 0; i < many; i++) {
+            int p = test.below(3);
+            int q = (p + 1 + test.below(2)) % 3;
+            int n = 1 + test.below(9);
+            test.due("lends(" + p + ", " + q + ", " + n + ")", test.x.lends(p, q, n), test.plain.lends(p, q, n));
+            test.due("payments()", test.x.payments(), test.plain.payments());
+            if (test.below(4) == 0) test.due("clear()", test.x.clear(), test.plain.clear());
+            if (test.below(5) == 0) test.undoings();
+            if (test.below(9) == 0) test.askAll();
+        }
     }
 
     private static void games() {

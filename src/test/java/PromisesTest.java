@@ -178,6 +178,9 @@ public final class PromisesTest {
         faulty("thing 0; deep 12;", 2, 9);
         faulty("person 0; deep 3;", 2, 10);
         faulty("deeps 5;", 2, 0);
+        faulty("zoo;", 2, 0);
+        faulty("azz 5;", 2, 0);
+        faulty("aA 5;", 2, 0);
         faulty("person 0 there;", 2, 9);
         faulty("thing 0 late 1;", 2, 8);
         faulty("person 0; rule 0 1 = 1 do to;", 2, 17);
@@ -378,6 +381,8 @@ public final class PromisesTest {
         due("one for all", x.would(0, 0), 2);
         due("the last for it", x.would(0, 2), 7);
         due("none for it: the late one", x.would(1, 2), 2);
+        String[] doings = {"stay", "to", "fro", "takel", "taker", "putl", "putr", "reachl", "reachr"};
+        for (int d = 0; d < 9; d++) due("do " + doings[d], told("person 1;rule:1=1 do " + doings[d] + ";").would(0, 0), d);
         LateMirror hands = told("deep 2;person 0 late 0;thing 0 there;rule:left=1 do putl;rule:right=1 do fro;");
         hands.step(3);
         due("right holds one", hands.would(0, 0), 2);
@@ -564,6 +569,17 @@ public final class PromisesTest {
         fill(two, 0, 2);
         due("every other time", two.round(0, 0), 2);
         due("behind so many", two.round(0, 1), 4);
+        // Each copy carries a thing to the frame and back, which takes twice its person's cell, and 4 steps.
+        String carry = "rule:left=1 and at<mine do fro;rule:left=1 do putl;rule:right=1 and at>0 do to;"
+            + "rule:right=1 do putr;rule:at=0 do takel;rule:1=1 do taker;";
+        LateMirror far = told("deep 9;person 8;person 7;thing 8 there;thing 7 there;" + carry);
+        fill(far, 0, 0);
+        due("20 and 18 meet", far.round(0, 0), 180);
+        due("when all are bored and have changed their things at the frame", far.round(0, 1), 10);
+        LateMirror farther = told("deep 9;person 8;person 7;person 5;thing 8 there;thing 7 there;thing 5 there;" + carry);
+        fill(farther, 0, 0);
+        due("20, 18 and 14 do not within 200", farther.round(0, 0), -1);
+        due("20, 18 and 14 do not within 200", farther.round(0, 1), -1);
         LateMirror nobody = new LateMirror();
         fill(nobody, 0, 0, 0);
         due("nobody", nobody.round(0, 0), 1);
@@ -614,6 +630,17 @@ public final class PromisesTest {
         due("by reachl", holding.soonest(0, -1, 0, 10), 7);
         holding.step(7);
         due("passing that was before does not count", holding.soonest(0, -1, 0, 0), 1);
+        LateMirror waits = told("deep 2;person 0 late 2;thing 0;");
+        waits.step(3);
+        int[] waiting = {7, 0, 7, -1};
+        due("the copy comes late", waits.soonest(0, -1, 0, 0), 3);
+        for (int k = 0; k < 4; k++) due("doing " + k, waits.soonest(0, -1, 0, 10 + k), waiting[k]);
+        due("the left hand", waits.soonest(0, 0, 20, 0), 0);
+        due("the copy's left hand: putl, reachr, taker, reachr", waits.soonest(0, 0, 30, 0), 4);
+        due("reachr while the hand is empty", waits.soonest(0, 0, 30, 11), 8);
+        due("too far", waits.soonest(0, 0, 10, 0), -1000);
+        due("the copy's right hand", waits.soonest(0, 0, 31, 0), 3);
+        due("what the copy lays down", told("deep 2;person 0 late 0;thing 1 there;").soonest(0, 0, 10, 0), 4);
         LateMirror empty = told("person 0;");
         due("nothing to pass", empty.soonest(0, -1, 0, 0), -1000);
     }
@@ -639,6 +666,7 @@ public final class PromisesTest {
             due("reach(1, " + n + ")", x.reach(1, n), late[n]);
         }
         due("by a rule", x.reach(2, 2), 7);
+        due("by a rule for stay", told("person 0 late 0;rule:late=0 do fro;").reach(0, 3), 15);
         x.step(9 * 2);
         due("what was told ahead", x.reach(1, 2), 1 << 5);
         due("reach(0, 5)", x.reach(0, 5), -3);
@@ -731,6 +759,11 @@ public final class PromisesTest {
         due("128 fit", x.fits(0), 128);
         due("the least other one", x.telling(0, 0), 2);
         due("half of them", x.telling(0, 1), 64);
+        // All laws that fit leave out all, so no doing tells and the least one is as good as any.
+        fill(x, 0, 9, 18, 27, 36, 45, 54, 63, 72, 0, 0, 0, 0);
+        due("five fit", x.fits(0), 5);
+        due("stay", x.telling(0, 0), 0);
+        due("all are left", x.telling(0, 1), 5);
         fill(x, 0, 10, 20, 9 * 3 + 4, 9 * 4 + 3, 9 * 5 + 6, 9 * 6 + 5, 9 * 7 + 8, 9 * 8 + 7);
         due("one fits", x.fits(0), 1);
         due("one tells nothing", x.telling(0, 0), -1);
@@ -932,6 +965,14 @@ public final class PromisesTest {
         due("the rest", x.owes(0, 1, false), 4);
         due("the rest", x.owes(1, 0, false), 0);
         due("the rest", x.owes(0, 2, false), 5);
+        LateMirror ring = told("person 0;person 1;person 1;");
+        ring.lends(0, 1, 5);
+        ring.lends(1, 2, 4);
+        ring.lends(2, 0, 3);
+        due("0 1 2", ring.clear(), 9);
+        due("the rest", ring.owes(0, 1, false), 2);
+        due("the rest", ring.owes(1, 2, false), 1);
+        due("the rest", ring.owes(2, 0, false), 0);
         LateMirror two = told("person 0;person 1;");
         two.lends(0, 1, 5);
         two.lends(1, 0, 9);
