@@ -1255,6 +1255,11 @@ public final class LateMirror {
             return chosen(row, p, late, moved(row[CELL + p], doing), boredThen(row, p, late));
         }
 
+        // Such a doing does not move the person, and comes to its copy only later: in this step it is as if to stay.
+        boolean isStayForNow(int p, int doing) {
+            return doing >= TAKE && live.late[p] > 0;
+        }
+
         int moved(int cell, int doing) {
             if (doing == TO && cell > 0) {
                 return cell - 1;
@@ -1673,7 +1678,7 @@ public final class LateMirror {
                     copyRow(rows[depth], rows[depth + 1]);
                     stage.advance(rows[depth + 1], doing * NINES[person]);
                     cells |= cellsFrom(depth + 1, steps);
-                } else {
+                } else if (!stage.isStayForNow(person, doing)) {
                     int done = stage.copyDoing(rows[depth], person, doing);
                     cells |= 1 << stage.moved(rows[depth][CELL + MOST_PEOPLE + person], done);
                 }
@@ -1778,20 +1783,30 @@ public final class LateMirror {
                 takeAllFrom(depth, told);
                 return;
             }
+            if (depth == lastSeen) {
+                findLast(depth, told);
+                return;
+            }
+            for (int doing = 0; doing < DOINGS && depth + 1 < MOST_MEANT; doing++) {
+                copyRow(rows[depth], rows[depth + 1]);
+                stage.advance(rows[depth + 1], doing * NINES[person]);
+                int cell = rows[depth + 1][CELL + MOST_PEOPLE + person];
+                if (cells[depth] == NONE || cells[depth] == cell) {
+                    findFrom(depth + 1, told * DOINGS + doing);
+                }
+            }
+        }
+
+        private void findLast(int depth, int told) {
+            int[] row = rows[depth];
+            int at = row[CELL + MOST_PEOPLE + person];
+            int stayed = stage.moved(at, stage.copyDoing(row, person, STAY));
             for (int doing = 0; doing < DOINGS; doing++) {
-                int toldThen = told * DOINGS + doing;
-                if (depth == lastSeen) {
-                    int done = stage.copyDoing(rows[depth], person, doing);
-                    if (stage.moved(rows[depth][CELL + MOST_PEOPLE + person], done) == cells[depth]) {
-                        takeAllFrom(depth + 1, toldThen);
-                    }
-                } else if (depth + 1 < MOST_MEANT) {
-                    copyRow(rows[depth], rows[depth + 1]);
-                    stage.advance(rows[depth + 1], doing * NINES[person]);
-                    int cell = rows[depth + 1][CELL + MOST_PEOPLE + person];
-                    if (cells[depth] == NONE || cells[depth] == cell) {
-                        findFrom(depth + 1, toldThen);
-                    }
+                int cell = stage.isStayForNow(person, doing)
+                    ? stayed
+                    : stage.moved(at, stage.copyDoing(row, person, doing));
+                if (cell == cells[depth]) {
+                    takeAllFrom(depth + 1, told * DOINGS + doing);
                 }
             }
         }

@@ -48,6 +48,16 @@ public final class PromisesTest {
         due("fault(1) of " + text, x.fault(1), place);
     }
 
+    private static void cutAt(String text, int n, int fault, int place) {
+        LateMirror x = new LateMirror();
+        for (int i = 0; i < text.length(); i += 20) {
+            int[] v = five(text, i);
+            x.feed(v[0], v[1], v[2], v[3], v[4]);
+        }
+        due("arcade(" + n + ") of " + text.trim(), x.arcade(n), -30 - fault);
+        due("fault(1) of " + text.trim(), x.fault(1), place);
+    }
+
     public static void main(String[] args) {
         newObject();
         feed();
@@ -223,6 +233,13 @@ public final class PromisesTest {
         faulty("rule : ((((((( 1 = 1 do to;", 4, 13);
         faulty("rule : not [ not [ not [ not 1 = 1 do", 4, 25);
         faulty("rule : [[[ not 1 = ((( 1", 4, 21);
+        cutAt("deep 5;missing", 11, 2, 11);
+        cutAt("deep 55;", 6, 2, 6);
+        cutAt("deep 5;miss 10;", 13, 2, 13);
+        cutAt("rule : 1 = 1 do reachr;", 21, 2, 16);
+        String blanks = " ".repeat(900);
+        cutAt(blanks.substring(4) + "deep", 900, 2, 900);
+        cutAt(blanks.substring(6) + "deep 5", 900, 2, 900);
         LateMirror x = told("rule : [[[[[[1 = 1]]]]]] and [[[[[[1 = 1]]]]]] do to;rule : not not not not not not 1 = 1 or not 1 = 1 do to;"
             + "rule : ((((((1)))))) = ((((((1)))))) do to;rule : not 1 = (((((1))))) and not not not not not (1) + (1) = 1 do to;");
         due("six within one another", x.count(3), 4);
@@ -666,7 +683,7 @@ public final class PromisesTest {
             due("reach(1, " + n + ")", x.reach(1, n), late[n]);
         }
         due("by a rule", x.reach(2, 2), 7);
-        due("by a rule for stay", told("person 0 late 0;rule:late=0 do fro;").reach(0, 3), 15);
+        due("by a rule for stay", told("person 0 late 0;rule:late=0 do fro;rule:1=1 do stay;").reach(0, 3), 15);
         x.step(9 * 2);
         due("what was told ahead", x.reach(1, 2), 1 << 5);
         due("reach(0, 5)", x.reach(0, 5), -3);
