@@ -21,7 +21,7 @@ public final class AgainstPlainTest {
     }
 
     public static void main(String[] args) {
-        int runs = args.length > 0 ? Integer.parseInt(args[0]) : 300;
+        int runs = args.length > 0 ? Integer.parseInt(args[0]) : 1500;
         int passes = 0;
         for (int run = 0; run < runs; run++) {
             AgainstPlainTest test = new AgainstPlainTest(run);
@@ -30,10 +30,10 @@ public final class AgainstPlainTest {
         }
         texts(args.length > 1 ? Integer.parseInt(args[1]) : 40000);
         games();
-        manyLaws(1500);
-        manyDebts(3000);
+        manyLaws(300);
+        manyDebts(100);
         System.out.println(asked + " answers, " + passes + " steps with passing, " + wrong + " wrong");
-        if (passes < runs / 2) {
+        if (passes < runs / 4) {
             System.out.println("too little passed: the runs tell too little");
             wrong++;
         }
@@ -161,12 +161,15 @@ public final class AgainstPlainTest {
 
     // ---- runs
 
+    /** Whether there is still room for some calls and for askAll(): an object is used for 512 calls at most. */
+    private boolean hasRoom() {
+        return calls < 280;
+    }
+
     private void play() {
+        int turns = 1 + below(60);
         while (!tell(text())) { }
-        for (int i = 0; i < 60; i++) {
-            turn();
-            if (i % 7 == 0) askAll();
-        }
+        for (int i = 0; i < turns && hasRoom(); i++) turn();
         askAll();
     }
 
@@ -387,41 +390,52 @@ public final class AgainstPlainTest {
     }
 
     private static void texts(int many) {
-        AgainstPlainTest test = new AgainstPlainTest(1000000);
         int good = 0;
+        AgainstPlainTest test = new AgainstPlainTest(1000000);
         for (int i = 0; i < many; i++) {
             String text = test.text();
             if (test.below(4) > 0) text = test.spoiled(text);
             if (test.tell(text)) good++;
-            if (i % 50 == 0) test.askAll();
+            if (!test.hasRoom()) {
+                test.askAll();
+                test = new AgainstPlainTest(1000001 + i);
+            }
         }
         System.out.println(many + " texts, " + good + " without fault");
     }
 
     private static void manyLaws(int many) {
-        AgainstPlainTest test = new AgainstPlainTest(3000000);
-        for (int i = 0; i < many; i++) test.laws();
-    }
-
-    private static void manyDebts(int many) {
-        AgainstPlainTest test = new AgainstPlainTest(4000000);
-        test.tell("person 0;person 1;person 2;");
         for (int i = 0; i < many; i++) {
-            int p = test.below(3);
-            int q = (p + 1 + test.below(2)) % 3;
-            int n = 1 + test.below(9);
-            test.due("lends(" + p + ", " + q + ", " + n + ")", test.x.lends(p, q, n), test.plain.lends(p, q, n));
-            test.due("payments()", test.x.payments(), test.plain.payments());
-            if (test.below(4) == 0) test.due("clear()", test.x.clear(), test.plain.clear());
-            if (test.below(5) == 0) test.undoings();
-            if (test.below(9) == 0) test.askAll();
+            AgainstPlainTest test = new AgainstPlainTest(3000000 + i);
+            for (int k = 0; k < 5; k++) test.laws();
         }
     }
 
+    private static void manyDebts(int many) {
+        for (int i = 0; i < many; i++) {
+            AgainstPlainTest test = new AgainstPlainTest(4000000 + i);
+            test.tell("person 0;person 1;person 2;");
+            while (test.hasRoom()) test.someDebts();
+            test.askAll();
+        }
+    }
+
+    private void someDebts() {
+        int p = below(3);
+        int q = (p + 1 + below(2)) % 3;
+        int n = 1 + below(9);
+        due("lends(" + p + ", " + q + ", " + n + ")", x.lends(p, q, n), plain.lends(p, q, n));
+        due("payments()", x.payments(), plain.payments());
+        if (below(4) == 0) due("clear()", x.clear(), plain.clear());
+        if (below(5) == 0) undoings();
+        due("balance(" + p + ")", x.balance(p, false), plain.balance(p, false));
+        due("owes(" + p + ", " + q + ")", x.owes(p, q, true), plain.owes(p, q, true));
+    }
+
     private static void games() {
-        AgainstPlainTest test = new AgainstPlainTest(2000000);
         for (int m = 0; m <= 5; m++) {
             for (int late = -1; late <= 4; late++) {
+                AgainstPlainTest test = new AgainstPlainTest(2000000);
                 for (int n = -1; n <= 61; n++) {
                     test.due("win(" + n + ", " + m + ", " + late + ")", test.x.win(n, m, late), test.plain.win(n, m, late));
                 }

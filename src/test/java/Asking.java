@@ -94,6 +94,35 @@ abstract class Asking {
         for (int i = 0; i < values.length; i++) x.write(tray, i, values[i]);
     }
 
+    /** All that can be asked of what is told and done, up to three people, four things and the trays. */
+    static long[] observed(LateMirror x) {
+        long[] all = new long[128];
+        int n = 0;
+        for (int i = 0; i < 9; i++) all[n++] = x.count(i);
+        for (int i = 0; i < 2; i++) all[n++] = x.fault(i);
+        for (int p = 0; p < 3; p++) {
+            for (int what = 0; what < 6; what++) all[n++] = x.person(p, what);
+            for (int what = 0; what < 6; what++) all[n++] = x.copy(p, what);
+            for (int q = 0; q < 3; q++) all[n++] = x.owes(p, q, false);
+            all[n++] = x.would(p, 0);
+            all[n++] = x.would(p, 1);
+        }
+        for (int i = 0; i < 4; i++) {
+            all[n++] = x.thing(i);
+            for (int what = 0; what < 4; what++) all[n++] = x.judge(i, what);
+            all[n++] = x.fits(i);
+            all[n++] = x.sure(i);
+        }
+        return all;
+    }
+
+    /** Both are the same but for one of the counts; all are to be, where that is NONE. */
+    static void dueSame(long[] before, long[] behind, int but) {
+        for (int i = 0; i < before.length; i++) {
+            if (i != but) due("what was asked as number " + i, behind[i], before[i]);
+        }
+    }
+
     static String times(String part, int n) {
         return part.repeat(n);
     }

@@ -548,8 +548,7 @@ public final class StepEdgesTest extends Asking {
         x.lends(0, 1, 5);
         x.day(7, 9);
         due("undo(3)", x.undo(3), 2);
-        long[] behind = observed(x);
-        for (int i = 0; i < before.length; i++) due("answer " + i, behind[i], before[i]);
+        dueSame(before, observed(x), -1);
         x.undo(2);
         due("told nothing", x.person(0, 4), -1);
         due("could nothing", x.person(0, 5), 0);
@@ -563,21 +562,6 @@ public final class StepEdgesTest extends Asking {
         y.undo(1);
         due("the arcade stays", y.count(0), 7);
         due("the step ahead of it is no matter", y.undo(1), -3);
-    }
-
-    /** What can be asked without doing anything, of an arcade of two people and two things. */
-    private static long[] observed(LateMirror x) {
-        long[] all = new long[60];
-        int n = 0;
-        for (int i = 0; i < 9; i++) if (i != 6) all[n++] = x.count(i);
-        for (int p = 0; p < 2; p++) {
-            for (int what = 0; what < 6; what++) all[n++] = x.person(p, what);
-            for (int what = 0; what < 6; what++) all[n++] = x.copy(p, what);
-            for (int d = 0; d < 9; d++) all[n++] = x.would(p, d);
-            all[n++] = x.thing(p);
-            all[n++] = x.owes(p, 1 - p, false);
-        }
-        return all;
     }
 
     private static void person() {
@@ -849,18 +833,27 @@ public final class StepEdgesTest extends Asking {
 
     /** Steps of all staying are alike first behind so many, as behind some before. */
     private static void dueComesRound(String text, int before, int behind) {
-        LateMirror x = told(text);
         java.util.List<String> states = new java.util.ArrayList<>();
         int first = -1;
         for (int i = 0; i <= 210 && first < 0; i++) {
-            StringBuilder b = new StringBuilder();
-            for (int p = 0; p < 3; p++) b.append(x.person(p, 0)).append(' ').append(x.copy(p, 0)).append(' ').append(x.copy(p, 1)).append(' ');
-            for (int t = 0; t < 4; t++) b.append(x.thing(t)).append(' ');
-            first = states.indexOf(b.toString());
-            if (first < 0) states.add(b.toString());
-            x.step(0);
+            String state = stateBehind(text, i);
+            first = states.indexOf(state);
+            if (first < 0) states.add(state);
         }
         due("alike as behind", first, before);
         due("alike behind", states.size(), behind);
+    }
+
+    /** Each on an object of its own, which is used for few calls then. */
+    private static String stateBehind(String text, int steps) {
+        LateMirror x = told(text);
+        x.numbers(0, 0, 40);
+        for (int i = 0; i < steps / 40; i++) x.perform(0);
+        x.numbers(0, 0, steps % 40);
+        x.perform(0);
+        StringBuilder b = new StringBuilder();
+        for (int p = 0; p < 3; p++) b.append(x.person(p, 0)).append(' ').append(x.copy(p, 0)).append(' ').append(x.copy(p, 1)).append(' ');
+        for (int t = 0; t < 4; t++) b.append(x.thing(t)).append(' ');
+        return b.toString();
     }
 }
