@@ -299,6 +299,15 @@ public final class KeptEdgesTest extends Asking {
         due("undo(1)", x.undo(1), 2);
         dueDebts(x, 5, 3, 0, 0, 0, 0);
         due("no step", x.count(5), 0);
+        // All but the debts stays.
+        LateMirror y = told("deep 3;person 0 late 0;person 1 late 0;person 2;thing 0;thing 1 there;");
+        y.day(8, 9);
+        y.step(3 + 9 * 2 + 81);
+        long[] before = observed(y);
+        y.lends(0, 1, 6);
+        y.lends(1, 0, 6);
+        due("clear()", y.clear(), 12);
+        dueSame(before, observed(y), 6);
     }
 
     private static void payments() {

@@ -13,6 +13,7 @@ public final class SoughtEdgesTest extends Asking {
 
     public static void main(String[] args) {
         alike();
+        alikeEach();
         soonestSteps();
         soonestPassing();
         soonestFirst();
@@ -22,6 +23,7 @@ public final class SoughtEdgesTest extends Asking {
         soonestPlaces();
         states();
         reach();
+        reachEach();
         seenNumbers();
         seenFromTheFirst();
         lawsLate();
@@ -29,6 +31,7 @@ public final class SoughtEdgesTest extends Asking {
         smallest();
         sure();
         telling();
+        tellingByTrying();
         tellingFewerThanTwo();
         meantNumbers();
         meantRows();
@@ -38,6 +41,7 @@ public final class SoughtEdgesTest extends Asking {
         oddsNumbers();
         oddsOfEach();
         oddsLate();
+        oddsOthers();
         oddsNothingElse();
         end();
     }
@@ -84,6 +88,42 @@ public final class SoughtEdgesTest extends Asking {
         LateMirror hands = told("deep 2;person 0 late 0;thing 0;rule:1=1 do to;");
         fill(hands, 0, TAKEL, PUTL, TAKER);
         dueRound(hands, "the right hand holds it", 2, 1);
+    }
+
+    private static void alikeEach() {
+        says("ALIKE are two states, if CELLS, THINGS, BORED, what PEOPLE were told to do in the last 4 STEPS, debts are so.");
+        String[] others = {"person 4 late 0;", "person 4 late 0;", "person 4 late 0;"};
+        for (int p = 0; p < 3; p++) {
+            // All but this one reach in vain, which they can go on with from the fourth step on.
+            int rest = REACHL * (91 - NINES[p]);
+            String[] people = others.clone();
+            people[p] = "person 8 late 0;";
+            LateMirror cell = told("deep 9;" + String.join("", people) + "rule:1=1 do stay;");
+            fill(cell, 0, rest + TO * NINES[p]);
+            dueRound(cell, "the cell of " + p, 8, 1);
+            LateMirror copyCell = told("deep 9;" + String.join("", people) + "rule " + p + ":1=1 do to;");
+            fill(copyCell, 0, rest + REACHR * NINES[p]);
+            dueRound(copyCell, "the copy's cell of " + p, 8, 1);
+            LateMirror bored = told("deep 9;" + String.join("", people));
+            fill(bored, 0, rest);
+            dueRound(bored, "how bored the copy is of " + p, 9, 1);
+            // It was told something else once: four steps ago that still counts, five steps ago no more.
+            LateMirror told = told("deep 9;" + String.join("", people) + "rule:1=1 do stay;");
+            for (int i = 0; i < 5; i++) told.step(rest + REACHL * NINES[p]);
+            for (int i = 0; i <= 5; i++) {
+                fill(told, 0, rest + REACHL * NINES[p]);
+                dueRound(told, "what " + p + " was told " + i + " steps ago", i == 0 ? 0 : 5 - i, 1);
+                told.step(i == 0 ? rest + REACHR * NINES[p] : rest + REACHL * NINES[p]);
+            }
+        }
+        for (int t = 0; t < 4; t++) {
+            // This one goes from hand to ground: all others lie elsewhere.
+            StringBuilder text = new StringBuilder("deep 3;person 1 late 0;");
+            for (int i = 0; i < 4; i++) text.append(i == t ? "thing 1 there;" : "thing 2;");
+            LateMirror x = told(text + "rule:left=0 do takel;rule:left=1 do putl;");
+            fill(x, 0, REACHL);
+            dueRound(x, "thing " + t, 4, 2);
+        }
     }
 
     private static void dueWay(LateMirror x, int p, int thing, int place, int... doings) {
@@ -260,6 +300,37 @@ public final class SoughtEdgesTest extends Asking {
         int[] cells = {1, 1, 3, 7, 15};
         for (int n = 0; n <= 4; n++) due("reach(0, " + n + ")", z.reach(0, n), cells[n]);
         due("as if done", z.count(5), 0);
+    }
+
+    private static void reachEach() {
+        says("of that PERSON, as bits.");
+        // Each of its own: the first stays at 0 whatever it is told, the second is soon, the third late.
+        String text = "deep 9;person 0 late 0;person 4 late 0;person 6 late 2;rule 0:1=1 do stay;";
+        int[][] want = {{1, 1, 1, 1, 1}, {1 << 4, 7 << 3, 31 << 2, 127 << 1, 511}, {1 << 6, 1 << 6, 1 << 6, 7 << 5, 31 << 4}};
+        for (int p = 0; p < 3; p++) {
+            for (int n = 0; n <= 4; n++) {
+                due("reach(" + p + ", " + n + ")", told(text).reach(p, n), want[p][n]);
+                LateMirror x = told(text);
+                x.soonest((p + 1) % 3, -1, 0, 0);
+                due("behind another search", x.reach(p, n), want[p][n]);
+            }
+        }
+        // Others stay, so a copy that was told ahead goes on as told, and only it.
+        LateMirror x = told(text);
+        x.step(81 * TO + 9 * FRO);
+        due("told ahead, not yet", x.reach(2, 1), 1 << 6);
+        due("told ahead", x.reach(2, 2), 1 << 5);
+        due("the other one from where it is", x.reach(1, 1), 7 << 4);
+        // By a doing of the hands in the last step, at once.
+        String hands = "deep 9;person 4 late 0;rule:late=4 do fro;rule:1=1 do stay;";
+        due("takel is done as fro", told(hands).reach(0, 1), 3 << 4);
+        LateMirror y = told(hands);
+        fill(y, 0, 5);
+        due("by takel alone", y.meant(0, 0, -1), 1);
+        due("by takel alone", y.meant(0, 0, 0), TAKEL);
+        due("by takel alone", y.maybe(0, 0, 0), 1 << TAKEL);
+        fill(y, 0, -1, 5);
+        due("by takel in one of two steps", y.meant(0, 0, -1), 16);
     }
 
     private static void dueReach(int deep, int at, int late) {
@@ -461,6 +532,65 @@ public final class SoughtEdgesTest extends Asking {
         fill(x, 0, 9, 18, 27, 36, 45, 54, 63, 72, 0, 0, 0, 0);
         due("nothing tells", x.telling(0, 0), 0);
         due("all five are left", x.telling(0, 1), 5);
+    }
+
+    private static void tellingByTrying() {
+        says("by what the COPY would do in these 5 STEPS LAWS that FIT part");
+        int[][] rows = {{1, 2, 3, 4}, {8, 7, 6}, {1, 1, 1, 1}, {1, 2}, {5, 0, 5, 0, 6}, {3, 4, 3, 4, 3, 4}, {1, 2, 3, 4, 5, 6, 7, 8},
+            {2, 4, 6, 8, 1, 3, 5, 7}, {7, 7, 8, 8, 7}, {1, 0, 0, 0, 2, 0, 0, 3}, {8}, {0, 0, 8, 7, 6, 5, 4, 3, 2, 1, 0}, {6, 3, 1, 8}};
+        for (int[] told : rows) {
+            LateMirror x = new LateMirror();
+            // The copy has stayed up to now.
+            x.numbers(0, 0, told.length);
+            for (int i = 0; i < told.length; i++) x.write(0, i, 9L * told[i]);
+            dueTelling(x, told, new int[told.length]);
+            // It is late by 2 and leaves out taker and putl.
+            int[] seen = new int[told.length];
+            for (int i = 2; i < told.length; i++) {
+                int d = OTHER_HAND[told[i - 2]];
+                seen[i] = d == TAKER || d == PUTL ? 0 : d;
+            }
+            for (int i = 0; i < told.length; i++) x.write(0, i, 9L * told[i] + seen[i]);
+            dueTelling(x, told, seen);
+        }
+    }
+
+    private static int lawDoes(int late, int out, int[] told, int i) {
+        int d = i - late < 0 || i - late >= told.length ? 0 : OTHER_HAND[told[i - late]];
+        return (out >> d & 1) == 1 ? 0 : d;
+    }
+
+    /** All laws one by one, those that fit are put together by what they would do. */
+    private static void dueTelling(LateMirror x, int[] told, int[] seen) {
+        int best = -1;
+        int fewest = 0;
+        int fit = 0;
+        for (int doing = 0; doing < 9; doing++) {
+            int[] then = java.util.Arrays.copyOf(told, told.length + 5);
+            then[told.length] = doing;
+            java.util.Map<String, Integer> parts = new java.util.HashMap<>();
+            fit = 0;
+            for (int late = 0; late <= 4; late++) {
+                for (int out = 0; out < 512; out += 2) {
+                    boolean fits = true;
+                    for (int i = 0; i < told.length; i++) fits &= lawDoes(late, out, told, i) == seen[i];
+                    if (!fits) continue;
+                    fit++;
+                    StringBuilder row = new StringBuilder();
+                    for (int i = told.length; i < then.length; i++) row.append(lawDoes(late, out, then, i));
+                    parts.merge(row.toString(), 1, Integer::sum);
+                }
+            }
+            int most = 0;
+            for (int many : parts.values()) most = Math.max(most, many);
+            if (best < 0 || most < fewest) {
+                best = doing;
+                fewest = most;
+            }
+        }
+        due("how many fit", x.fits(0), fit);
+        due("the doing that tells", x.telling(0, 0), fit < 2 ? -1 : best);
+        due("left at worst", x.telling(0, 1), fit < 2 ? -1 : fewest);
     }
 
     private static void tellingFewerThanTwo() {
@@ -693,6 +823,25 @@ public final class SoughtEdgesTest extends Asking {
                 long want = 1;
                 for (int i = 0; i < n; i++) want *= i < late && i < 4 ? 8 : 10;
                 due("told ahead, late " + late + " behind " + n, y.odds(0, 0, 4 - Math.min(late, n)), want);
+            }
+        }
+    }
+
+    private static void oddsOthers() {
+        says("LATE ones told by HOURS and ahead.");
+        for (int p = 0; p < 3; p++) {
+            // Others go the other way, and are told so ahead.
+            LateMirror x = told("deep 9;person 4 late 2;person 4 late 2;person 4 late 2;miss 1;");
+            int others = FRO * (91 - NINES[p]);
+            x.step(others + TO * NINES[p]);
+            fill(x, 0, others + TO * NINES[p], others, others + REACHL * NINES[p]);
+            for (int q = 0; q < 3; q++) {
+                long[] want = new long[9];
+                // In three steps: none yet, what was told ahead, what the first hour tells.
+                want[4] = 10;
+                want[q == p ? 3 : 5] = 2 * 9 * 10;
+                want[q == p ? 2 : 6] = 9 * 9 * 10;
+                for (int cell = 0; cell < 9; cell++) due("odds(" + q + ", 0, " + cell + ")", x.odds(q, 0, cell), want[cell]);
             }
         }
     }

@@ -20,11 +20,13 @@ public final class StepEdgesTest extends Asking {
         order();
         lateDoings();
         bored();
+        boredEach();
         firstRule();
         names();
         keptSums();
         passing();
         passingOnce();
+        passingOnceOthers();
         doingsAsNumber();
         places();
         undone();
@@ -253,6 +255,22 @@ public final class StepEdgesTest extends Asking {
         }
     }
 
+    private static void boredEach() {
+        says("bored: BORED, as things are when it does it");
+        String rules = "rule 0:bored=2 do fro;rule 1:bored=3 do fro;rule 2:bored=4 do fro;";
+        LateMirror x = told("deep 9;person 4 late 0;person 4 late 0;person 4 late 0;" + rules);
+        // The first stays from the first step on, the others from the second and the third on.
+        int[] told = {9 * TO + 81 * TO, 81 * TO, 0, 0, 0, 0, 0};
+        int[][] bored = {{1, 0, 0}, {2, 1, 0}, {3, 2, 1}, {4, 3, 2}, {5, 4, 3}, {6, 5, 4}, {7, 6, 5}};
+        for (int i = 0; i < told.length; i++) {
+            x.step(told[i]);
+            for (int p = 0; p < 3; p++) {
+                due("copy(" + p + ", 1) in step " + i, x.copy(p, 1), bored[i][p]);
+                if (i > 1) due("its rule", x.copy(p, 4), bored[i][p] == p + 2 ? FRO : 0);
+            }
+        }
+    }
+
     private static void firstRule() {
         says("The COPY does the DOING of the first RULE for it that holds, else the LATE one.");
         LateMirror x = told("deep 9;person 4 late 0;person 4 late 0;rule 1:1=1 do to;rule:late=3 do fro;rule:late<5 do putl;rule:late=5 do stay;");
@@ -408,6 +426,22 @@ public final class StepEdgesTest extends Asking {
         due("and back", three.step(REACHL + 9 * REACHL + 81 * REACHL), 3);
         due("the last alone: its own copy alone reaches", three.step(81 * REACHL), 1);
         due("thing(2)", three.thing(2), 35);
+    }
+
+    private static void passingOnceOthers() {
+        says("has passed nothing in this STEP yet");
+        String people = "deep 2;person 0 late 0;person 0 late 0;person 0 late 0;thing 0;";
+        for (int copy = 0; copy < 3; copy++) {
+            StringBuilder rules = new StringBuilder();
+            for (int p = 0; p < 3; p++) if (p != copy) rules.append("rule ").append(p).append(":late>6 do stay;");
+            // This copy alone reaches. What the first gives it, neither of the others gets in the same step.
+            LateMirror x = told(people + rules);
+            x.step(TAKEL);
+            due("only to the copy", x.step(REACHL * 91), 1);
+            due("it is there", x.thing(0), 31 + 2 * copy);
+            due("and back to the first", x.step(REACHL * 91), 1);
+            due("it is here", x.thing(0), 20);
+        }
     }
 
     private static void doingsAsNumber() {

@@ -6,6 +6,8 @@ public final class TextEdgesTest extends Asking {
         arcade();
         faultAnswers();
         lengthOfText();
+        eachByItself();
+        behindAFault();
         lines();
         truths();
         sumsAndTerms();
@@ -159,6 +161,48 @@ public final class TextEdgesTest extends Asking {
         due("a long row of and", told("deep 9;person 4;rule:" + times("1=1 and ", 100) + "1=2 do fro;").would(0, 0), 0);
     }
 
+    private static void eachByItself() {
+        says("(without one: 5 deep, nobody)");
+        LateMirror x = told("deep 9;miss 3;person 8 late 4;person 7;thing 8;thing 7;rule:1=1 do to;rule 1:1=1 do fro;");
+        due("another text", tell(x, "person 4;"), 1);
+        int[] counts = {5, 1, 0, 0, 0, 0, 0, 0, 1};
+        for (int i = 0; i < counts.length; i++) due("count(" + i + ")", x.count(i), counts[i]);
+        due("person(0, 1)", x.person(0, 1), 1);
+        due("would(0, 1)", x.would(0, 1), 0);
+        due("the cell that was there", tell(x, "person 5;"), -33);
+        due("the person that was there", tell(x, "person 4;rule 1:1=1 do to;"), -33);
+        due("three people again", tell(x, times("person 4;", 3)), 3);
+        due("four things", tell(x, times("thing 4;", 4)), 4);
+        due("deep with nobody ahead", tell(x, "deep 2;"), 1);
+        // Eight long rules each time: however often, the last one is read to its end.
+        LateMirror y = new LateMirror();
+        String rule = "rule:" + times("1+", 40) + "1=42 do to;";
+        String text = "person 4;" + times(rule, 7) + "rule:" + times("1+", 40) + "1=41 do fro;";
+        for (int i = 0; i < 10; i++) {
+            due("the text for the " + i + "th time", tell(y, text), 9);
+            due("its last rule", y.would(0, 0), 2);
+        }
+    }
+
+    private static void behindAFault() {
+        says("(all stays with a FAULT)");
+        // What one with a fault told, opened and left open is no matter to the next one.
+        String[] faulty = {"deep 9;miss 9;person 8;person 8;person 8;thing 8;thing 8;thing 8;thing 8;rule:1=1 do to;!",
+            "rule:[[[[[[1=1!", "rule:((((((1!", "rule:not not not not not not!", "rule:1=(((1!", "rule:1=1 and!", "rule:[1=1]!",
+            "rule:[[[1=1]]!", "rule:[1=(1!", times("rule:1=1 do to;", 8) + "!"};
+        for (String text : faulty) {
+            LateMirror x = new LateMirror();
+            due(text, tell(x, text), -31);
+            due("six within one another", tell(x, "person 4;rule:[[[[[[1=2]]]]]] or not not[1=(((1))) and 1=1] do fro;rule:((((((1))))))=1 do to;"), 3);
+            due("its first rule", x.would(0, 0), 2);
+            due("all that can be", tell(x, times("person 4;", 3) + times("thing 4;", 4) + times("rule:1=1 do fro;", 8)), 15);
+            due("count(0)", x.count(0), 5);
+            due("count(4)", x.count(4), 0);
+            due("a bracket that was open", tell(x, "rule:1=1] do to;"), -32);
+            due("a sum that was open", tell(x, "rule:1)=1 do to;"), -32);
+        }
+    }
+
     private static void lines() {
         says("{ LINE ; } LINE: deep N | person N [ late N ] | thing N [ there ] | rule [ N ] : TRUTH do DOING | miss N.");
         good("", 0);
@@ -223,6 +267,17 @@ public final class TextEdgesTest extends Asking {
         faulty("rule:1<1>1 do to;", 2, 8);
         faulty("rule:[1=1]=1 do to;", 2, 10);
         faulty("rule:[1=1][1=1] do to;", 2, 10);
+        for (String sign : new String[] {"+", "-", "*"}) {
+            faulty("rule:[1=1]" + sign + "1 do to;", 2, 10);
+            faulty("rule:[1=1]" + sign + "1=1 do to;", 2, 10);
+            faulty("rule:[[1=1]" + sign + "1] do to;", 2, 11);
+        }
+        faulty("rule:[1=1])=1 do to;", 2, 10);
+        // Numbers that are bytes of signs are no signs.
+        for (int n = 30; n <= 125; n++) {
+            due(n + " and, or", holds("1=" + n + " and 1=1 or " + n + "=" + n), 1);
+            faulty("rule:" + n + " and 1=1 do to;", 2, n < 100 ? 8 : 9);
+        }
         faulty("rule:[1=1 do to;", 2, 10);
         faulty("rule:1=1] do to;", 2, 8);
         faulty("rule:[1+1] do to;", 2, 9);
