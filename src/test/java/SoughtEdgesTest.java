@@ -21,6 +21,7 @@ public final class SoughtEdgesTest extends Asking {
         soonestSpent();
         soonestWhat();
         soonestPlaces();
+        fromZeroOn();
         states();
         reach();
         reachEach();
@@ -228,8 +229,11 @@ public final class SoughtEdgesTest extends Asking {
         dueSpent(told("deep 2;person 0;"), 0, -1, 0);
         LateMirror stuck = told("deep 2;person 1 late 0;thing 0 there;rule:1=1 do stay;");
         dueSpent(stuck, 0, 0, 0);
+        says("NONE, if there are no new ones, or 8 do not do.");
+        // That can't come: behind 4 steps more than 3,000 were met always, even by one who is as bored as can be.
         for (int i = 0; i < 12; i++) stuck.step(0);
         dueSpent(stuck, 0, 0, 0);
+        dueSpent(stuck, 0, -1, 0);
         dueWay(stuck, 0, 0, 10);
     }
 
@@ -263,6 +267,22 @@ public final class SoughtEdgesTest extends Asking {
                 due("place " + place + " of " + deep + " deep, " + people, got == -3 ? 0 : 1, cell || hand ? 1 : 0);
             }
         }
+    }
+
+    private static void fromZeroOn() {
+        says("The k-th, the i-th of whatever: from 0 on, where it isn't told otherwise.");
+        LateMirror x = told("deep 3;person 0 late 0;thing 0;");
+        due("the first doing", x.soonest(0, 0, 1, 10), TAKEL);
+        due("the last doing", x.soonest(0, 0, 1, 12), PUTL);
+        fill(x, 0, TO, 9);
+        due("the first step in which a copy could not", x.fails(0, 0), 0);
+        due("the first copy", x.fails(0, 1), 0);
+        due("the place that is no doings", x.judge(0, 0), 1);
+        fill(x, 0, 1, 2);
+        due("the first row", x.meant(0, 0, 0), FRO * 9 + FRO);
+        due("the first place", x.maybe(0, 0, 0), 1 << FRO);
+        due("the first number", x.write(0, 0, 5), 5);
+        due("the first image", x.image(0), 0);
     }
 
     private static void states() {
