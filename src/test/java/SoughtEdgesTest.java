@@ -14,6 +14,9 @@ public final class SoughtEdgesTest extends Asking {
     public static void main(String[] args) {
         alike();
         alikeEach();
+        alikeCells();
+        alikeBored();
+        alikeTold();
         soonestSteps();
         soonestPassing();
         soonestFirst();
@@ -124,6 +127,74 @@ public final class SoughtEdgesTest extends Asking {
             LateMirror x = told(text + "rule:left=0 do takel;rule:left=1 do putl;");
             fill(x, 0, REACHL);
             dueRound(x, "thing " + t, 4, 2);
+        }
+    }
+
+    private static void alikeCells() {
+        says("ALIKE are two states, if CELLS, THINGS, BORED, what PEOPLE were told to do in the last 4 STEPS, debts are so.");
+        // One is at 0, then at 4, then at 8, and all else is as it was, wherever the others are.
+        for (int others = 0; others < 9; others++) {
+            for (int p = 0; p < 3; p++) {
+                StringBuilder text = new StringBuilder("deep 9;");
+                for (int q = 0; q < 3; q++) text.append("person ").append(q == p ? 0 : others).append(" late 0;");
+                String why = " of " + p + ", others at " + others;
+                dueFarther("the cell" + why, told(text + "rule:1=1 do stay;"), p, FRO);
+                dueFarther("the copy's cell" + why, told(text + "rule:late=6 do fro;"), p, PUTL);
+            }
+        }
+    }
+
+    /** Told so four times, then to stay as often: each time all is as it was, but for one cell that is four farther. */
+    private static void dueFarther(String why, LateMirror x, int p, int doing) {
+        for (int i = 0; i < 5; i++) x.step(0);
+        x.step(REACHL * NINES[p]);
+        for (int i = 0; i < 4; i++) x.step(0);
+        for (int q = 0; q < 3; q++) due(why + ": bored", x.copy(q, 1), q == p ? 4 : 9);
+        int told = doing * NINES[p];
+        fill(x, 0, told, told, told, told, 0, 0, 0, 0);
+        dueRound(x, why, 2, 1);
+    }
+
+    private static void alikeBored() {
+        says("BORED is how many STEPS on end, this one too, it was stay (9 at most).");
+        // Late by 4, a copy is as bored by what was told longer ago than states are compared by.
+        for (int p = 0; p < 3; p++) {
+            for (int place = 0; place < 9; place++) {
+                for (int bored = 0; bored <= 9; bored++) {
+                    LateMirror x = told("deep 9;" + times("person 4 late 4;", 3) + times("thing " + place + ";", 4));
+                    for (int i = 0; i < 14; i++) x.step(0);
+                    x.step(REACHL * NINES[p]);
+                    for (int i = 0; i < 4 + bored; i++) x.step(0);
+                    due("bored", x.copy(p, 1), bored);
+                    due("the next one is as bored as can be", x.copy((p + 1) % 3, 1), 9);
+                    String why = "copy " + p + " bored by " + bored + ", things at " + place;
+                    fill(x, 0, 0);
+                    dueRound(x, why, 9 - bored, 1);
+                    fill(x, 0, 0, 0, 0, 0, 0, 0, 0, 0);
+                    dueRound(x, why + ", by eights", (9 - bored + 7) / 8, 1);
+                }
+            }
+        }
+    }
+
+    private static void alikeTold() {
+        says("what PEOPLE were told to do in the last 4 STEPS");
+        // Once it was told something else, four steps ago; its copy comes to that only now. Others do the same all the time.
+        for (int p = 0; p < 3; p++) {
+            for (int once = TAKEL; once <= REACHR; once++) {
+                for (int other = TAKEL; other <= REACHR; other++) {
+                    LateMirror x = told("deep 9;" + times("person 4 late 4;", 3));
+                    int others = other * (91 - NINES[p]);
+                    for (int i = 0; i < 16; i++) x.step(others);
+                    fill(x, 0, others, others, others, others, others, others, others, others, others, others);
+                    String why = p + " told " + once + ", others " + other;
+                    dueRound(x, why + ": ahead", 0, 1);
+                    x.step(others + once * NINES[p]);
+                    for (int i = 0; i < 3; i++) x.step(others);
+                    due("not come yet", x.copy(p, 1), 9);
+                    dueRound(x, why, 1, 1);
+                }
+            }
         }
     }
 
