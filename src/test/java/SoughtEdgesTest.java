@@ -287,6 +287,10 @@ public final class SoughtEdgesTest extends Asking {
         dueSpent(x, 0, 1, 24);
         dueWay(x, 2, 1, 24, TAKEL);
         dueSpent(x, 1, 0, 0);
+        // Nor do they go: at the frame the copy of the second one would take it.
+        LateMirror y = told("deep 2;person 1 late 0;person 1 late 0;thing 0 there;rule 1:at=0 do takel;");
+        dueSpent(y, 0, 0, 32);
+        dueWay(y, 1, 0, 32, TO, 0);
     }
 
     private static void soonestSpent() {
